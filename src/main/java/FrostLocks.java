@@ -54,8 +54,9 @@ public final class FrostLocks {
 
     public FrostLocks() {
         tape = new Tape();
-        now = new Night();
-        trial = new Night();
+        Law untold = new Law();
+        now = new Night(untold);
+        trial = new Night(untold);
         marks = new Night[MOST_MARKS];
         soonest = new int[MOST_DOORS];
         order = new int[MOST_DOORS];
@@ -342,7 +343,7 @@ public final class FrostLocks {
             return true;
         }
         if (marks[mark] == null) {
-            marks[mark] = new Night();
+            marks[mark] = new Night(now.law);
         }
         marks[mark].copyFrom(now);
         return true;
@@ -1174,11 +1175,11 @@ public final class FrostLocks {
         final Lock[] locks = new Lock[MOST_DOORS];
         private final int[] facts = new int[FACTS];
 
-        Night() {
+        Night(Law law) {
             for (int door = 0; door < MOST_DOORS; door++) {
                 locks[door] = new Lock();
             }
-            law = new Law();
+            this.law = law;
             barred = NONE;
         }
 
