@@ -49,7 +49,8 @@ public final class FrostLocks {
     private final Night[] marks;
     private final int[] soonest;
     private final int[] order;
-    private final int[] tried;
+    private final int[] coldAhead;
+    private final int[] breathAhead;
     private final int[] weights;
 
     public FrostLocks() {
@@ -60,7 +61,8 @@ public final class FrostLocks {
         marks = new Night[MOST_MARKS];
         soonest = new int[MOST_DOORS];
         order = new int[MOST_DOORS];
-        tried = new int[FULL_LOCK + 1];
+        coldAhead = new int[MOST_AHEAD];
+        breathAhead = new int[MOST_AHEAD];
         weights = new int[MOST_CELLS];
     }
 
@@ -190,18 +192,24 @@ public final class FrostLocks {
         if (!isBelow(door, now.law.doors) || !isAhead(hours)) {
             return NONE;
         }
-        findSoonest(hours);
-        return soonest[door] <= hours ? soonest[door] : NONE;
+        trial.copyFrom(now);
+        for (int i = 0; i <= hours; i++) {
+            if (trial.locks[door].isLoose()) {
+                return i;
+            }
+            trial.passHour(0);
+        }
+        return NONE;
     }
 
     public int needs(int door, int hours) {
         if (!isBelow(door, now.law.doors) || !isAhead(hours)) {
             return NONE;
         }
-        int room = Math.min(FULL_LOCK - now.locks[door].held(), tried.length - 1);
-        tryWaters(door, hours, room);
+        foresee(door, hours);
+        int room = FULL_LOCK - now.locks[door].held();
         for (int water = 0; water <= room; water++) {
-            if (tried[water] != NONE) {
+            if (isFirmWith(water, door, hours)) {
                 return water;
             }
         }
@@ -425,24 +433,31 @@ public final class FrostLocks {
         }
     }
 
-    /** Leaves behind each water that is tried the ice it comes to, or NONE if the door was loose by it. */
-    private void tryWaters(int door, int hours, int room) {
-        Lock lock = now.locks[door];
-        Arrays.fill(tried, lock.ice);
+    /** Keeps the cold and the breaths about a door in each of the hours, if it is never loose. */
+    private void foresee(int door, int hours) {
         trial.copyFrom(now);
         // Only waters by which the door is never loose are asked for, so no man ever goes through it.
         trial.barred = door;
         for (int i = 0; i < hours; i++) {
-            trial.lookAround(door, trial.degreesBehind(0, 0));
-            for (int water = 0; water <= room; water++) {
-                if (tried[water] != NONE) {
-                    int wet = lock.held() + water - tried[water];
-                    int ice = trial.iceBehind(lock.saltBehind(i), tried[water], wet);
-                    tried[water] = ice > 0 ? ice : NONE;
-                }
-            }
+            coldAhead[i] = trial.degreesBehind(0, 0);
+            breathAhead[i] = trial.breathAt(door);
             trial.passHour(0);
         }
+    }
+
+    private boolean isFirmWith(int water, int door, int hours) {
+        Lock lock = now.locks[door];
+        int held = lock.held() + water;
+        int ice = lock.ice;
+        int stove = now.stoveAt(door);
+        for (int i = 0; i < hours; i++) {
+            trial.setAround(coldAhead[i], stove, breathAhead[i]);
+            ice = trial.iceBehind(lock.saltBehind(i), ice, held - ice);
+            if (ice == 0) {
+                return false;
+            }
+        }
+        return true;
     }
 
     private int doorWeight(int door) {
@@ -1264,7 +1279,7 @@ public final class FrostLocks {
         void passHour(int mild) {
             int degrees = degreesBehind(0, mild);
             for (int door = 0; door < law.doors; door++) {
-                lookAround(door, degrees);
+                setAround(degrees, stoveAt(door), breathAt(door));
                 freeze(locks[door]);
             }
             for (int man = 0; man < law.men; man++) {
@@ -1273,14 +1288,23 @@ public final class FrostLocks {
             hour++;
         }
 
-        /** Sets the facts of a door that its lock has no part in. */
-        void lookAround(int door, int degrees) {
+        int stoveAt(int door) {
+            int other = law.doorOther[door];
+            return stoves[law.doorCell[door]] + (other == OUTSIDE ? 0 : stoves[other]);
+        }
+
+        int breathAt(int door) {
             int cell = law.doorCell[door];
             int other = law.doorOther[door];
-            boolean inner = other != OUTSIDE;
+            // No guard is outside, so outside counts none.
+            return Integer.bitCount(menIn(cell, other)) + guardsIn(cell) + guardsIn(other);
+        }
+
+        /** Sets the facts about a door that its lock has no part in. */
+        void setAround(int degrees, int stove, int breath) {
             facts[DEGREES] = degrees;
-            facts[STOVE] = stoves[cell] + (inner ? stoves[other] : 0);
-            facts[BREATH] = Integer.bitCount(menIn(cell, other)) + guardsIn(cell) + (inner ? guardsIn(other) : 0);
+            facts[STOVE] = stove;
+            facts[BREATH] = breath;
         }
 
         int iceBehind(int salt, int ice, int water) {

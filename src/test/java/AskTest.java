@@ -94,6 +94,13 @@ public final class AskTest {
         check.due("the least", x.needs(0, 5), 7);
         x.pour(0, 8);
         check.due("the next", x.needs(0, 5), 43);
+        String brim = "ice (ice+water=99)*20;cell a stove 0;door a to out thick 0;";
+        FrostLocks z = check.told(brim);
+        check.due("all the room", z.needs(0, 240), 99);
+        z.pour(0, 40);
+        check.due("all the room left", z.needs(0, 240), 59);
+        z.pour(0, 59);
+        check.due("no room, and none needed", z.needs(0, 240), 0);
         // Its water leaves the others as they are: men go through another door, and their breath is gone.
         FrostLocks y = check.told("ice 2-breath*3;cell a stove 0;cell b stove 0;door a to out thick 5;"
             + "door a to out thick 1;man m in a salt 0 waits 0;");
@@ -195,6 +202,20 @@ public final class AskTest {
         check.due("salt", z.plan(0, 0), 2);
         check.due("the first", z.plan(0, 2), 1);
         check.due("the first", z.plan(0, 3), 0);
+        StringBuilder row = new StringBuilder();
+        for (char cell = 'a'; cell <= 'h'; cell++) {
+            row.append("cell ").append(cell).append(" stove 0;");
+        }
+        row.append("door a to b thick 1;door b to c thick 6;door c to d thick 1;door d to e thick 1;");
+        row.append("door e to f thick 1;door f to g thick 1;door g to h thick 1;door h to out thick 96;");
+        FrostLocks w = check.told(row + "man m in a salt 0 waits 0;");
+        check.due("the whole row's salt", w.plan(0, 0), 28);
+        check.due("the whole row's doors", w.plan(0, 1), 8);
+        check.due("the whole row's far", w.cell(0, 3), 8);
+        for (int i = 0; i < 8; i++) {
+            check.due("the row's door " + i, w.plan(0, 2 + i), i);
+        }
+        check.due("behind the row", w.plan(0, 10), -1);
     }
 
     private void escape() {
@@ -255,6 +276,12 @@ public final class AskTest {
         check.due("by 10", y.salted(10), 0);
         check.tell(y, "ice 5-salt*9;cell a stove 0;door a to out thick 10;man m in a salt 2 waits 99;");
         check.due("told anew", y.salted(1), 0);
+        // What salt took is less for good where nothing freezes.
+        FrostLocks w = check.told("ice 0-salt*7;cell a stove 0;door a to out thick 30;man m in a salt 1 waits 99;");
+        w.salt(0, 0);
+        w.hours(200);
+        check.due("for good", w.salted(7), 1);
+        check.due("for good", w.salted(8), 0);
         // What melted bare as well is not counted.
         FrostLocks z = check.told("ice 0-20-salt;cell a stove 0;door a to out thick 10;man m in a salt 2 waits 99;");
         z.salt(0, 0);
@@ -343,6 +370,7 @@ public final class AskTest {
             check.due("men by " + seed, x.lots(seed, 20, 120, 0), want[0]);
             check.due("hours by " + seed, x.lots(seed, 20, 120, 1), want[1]);
             check.due("one by " + seed, x.lots(seed, 1, 1, 1), drawn(seed, 1, 1)[1]);
+            check.due("few by " + seed, x.lots(seed, 20, 8, 0), drawn(seed, 20, 8)[0]);
         }
         int[][] wrong = {{-1, 1, 1, 0}, {10000, 1, 1, 0}, {0, 0, 1, 0}, {0, 21, 1, 0}, {0, 1, 0, 0}, {0, 1, 121, 0},
             {0, 1, 1, 2}, {0, 1, 1, -1}};

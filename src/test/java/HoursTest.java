@@ -116,6 +116,12 @@ public final class HoursTest {
         z.pour(0, 10);
         z.hours(1);
         lock(z, 0, 59, 1, 0);
+        FrostLocks v = check.told("ice 3*(ice<9)-(9<ice);cell a stove 0;door a to out thick 5;");
+        v.pour(0, 90);
+        v.hours(2);
+        lock(v, 0, 11, 84, 0);
+        v.hours(1);
+        lock(v, 0, 10, 85, 0);
         FrostLocks w = check.told("weather hour+11;ice degrees-stove*2;cell a stove 1;cell b stove 2;"
             + "door a to b thick 0;door b to out thick 0;");
         w.pour(0, 50);
@@ -232,6 +238,12 @@ public final class HoursTest {
         check.due("and holds him", y.man(0, 0), 0);
         y.hours(1);
         check.due("once", y.man(0, 0), -1);
+        FrostLocks w = check.told("cell a stove 0;cell b stove 0;guard a a a a a a a b;guard b b b b b b b a;");
+        for (int hour = 0; hour < 17; hour++) {
+            check.due("guards in a in " + hour, w.cell(0, 2), 1);
+            check.due("guards in b in " + hour, w.cell(1, 2), 1);
+            w.hours(1);
+        }
         FrostLocks z = check.told("ice 9-breath;cell a stove 0;cell b stove 0;door a to b thick 0;guard a b;guard b;");
         z.pour(0, 99);
         z.hours(1);
