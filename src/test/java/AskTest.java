@@ -101,6 +101,9 @@ public final class AskTest {
         check.due("all the room left", z.needs(0, 240), 59);
         z.pour(0, 59);
         check.due("no room, and none needed", z.needs(0, 240), 0);
+        FrostLocks w = check.told("ice (100<ice+water)*20-1;cell a stove 0;door a to out thick 50;");
+        check.due("as long as it lasts", w.needs(0, 49), 0);
+        check.due("no more than the room", w.needs(0, 50), -1);
         // Its water leaves the others as they are: men go through another door, and their breath is gone.
         FrostLocks y = check.told("ice 2-breath*3;cell a stove 0;cell b stove 0;door a to out thick 5;"
             + "door a to out thick 1;man m in a salt 0 waits 0;");

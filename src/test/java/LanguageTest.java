@@ -139,6 +139,12 @@ public final class LanguageTest {
         for (String word : new String[] {"hour", "day", "degrees", "breath", "water", "e", "outs", "no"}) {
             check.told("cell " + word + " stove 0;door " + word + " to out thick 0;guard " + word + ";");
         }
+        FrostLocks x = check.told("cell a stove 1;cell aa stove 2;cell aaaaaaaa stove 3;door aa to a thick 1;"
+            + "door aaaaaaaa to aa thick 1;");
+        check.due("a longer name is another", x.door(0, 3), 1);
+        check.due("a longer name is another", x.door(1, 3), 2);
+        check.fault("cell a stove 0;door b to out thick 1;", 2, 20);
+        check.fault("cell a stove 0;door aa to out thick 1;", 2, 20);
         check.fault("door a to out thick 1;", 2, 5);
         check.fault("cell a stove 0;door out to a thick 1;", 1, 20);
         check.fault("cell a stove 0;door a to b thick 1;", 2, 25);
@@ -258,6 +264,9 @@ public final class LanguageTest {
         value("0-1<0", 1);
         value("0-1 and 1", 1);
         value("7 or 0", 1);
+        value("1 and 0<9-2*(1 and 0<9-2*(1 and 0<9-2*(1 and 0<9-2*(1 and 0<9-2*4))))", 1);
+        value("1 and 0<9-2*(1 and 0<9-2*(1 and 0<9-2*(1 and 0<1-2*(1 and 0<9-2*4))))", 1);
+        value("1 and 0<1-2*(1 and 0<1-2*(1 and 0<1-2*(1 and 0<1-2*(1 and 0<9-2*5))))", 0);
         value("40", 40);
         value("41", 40);
         value("0-40", -40);
