@@ -65,6 +65,15 @@ public final class LanguageTest {
         Check.feed(y, " ".repeat(985) + "cell a stove 7;;");
         check.due("what is beyond is left out", y.prison(), 0);
         check.due("stove", y.cell(0, 0), 7);
+        Check.feed(y, " ".repeat(994) + "mild 1");
+        check.due("a full tape that ends in a number", y.prison(), 1 + 16 * 1000);
+        Check.feed(y, " ".repeat(996) + "mild");
+        check.due("a full tape that ends in a word", y.prison(), 1 + 16 * 1000);
+        Check.feed(y, "mild 1 " + " ".repeat(993));
+        check.due("a full tape that ends in blanks", y.prison(), 1 + 16 * 1000);
+        check.tell(y, "mild 12;cell abc stove 0;");
+        Check.feed(y, "mild 1");
+        check.due("what was read is gone", y.prison(), 1 + 16 * 6);
         Check.feed(y, "mi");
         Check.feed(y, "ld 3;");
         check.due("feeds join", y.prison(), 0);
@@ -145,6 +154,8 @@ public final class LanguageTest {
         check.due("a longer name is another", x.door(1, 3), 2);
         check.fault("cell a stove 0;door b to out thick 1;", 2, 20);
         check.fault("cell a stove 0;door aa to out thick 1;", 2, 20);
+        check.fault("cell b stove 0;door bb to out thick 1;", 2, 20);
+        check.fault("cell z stove 0;door zz to out thick 1;", 2, 20);
         check.fault("door a to out thick 1;", 2, 5);
         check.fault("cell a stove 0;door out to a thick 1;", 1, 20);
         check.fault("cell a stove 0;door a to b thick 1;", 2, 25);
@@ -193,6 +204,8 @@ public final class LanguageTest {
         }
         check.due("men", check.told(men.toString()).count(2), 6);
         check.fault(men + "man out", 5, men.length());
+        check.due("a cell behind six men", check.told(men + "cell z stove 0;").count(0), 2);
+        check.fault(men + "cell g stove 0;", 3, men.length() + 5);
         String guards = "cell a stove 0;guard a;guard a;";
         check.due("guards", check.told(guards).count(3), 2);
         check.fault(guards + "guard a;", 5, guards.length());
