@@ -700,7 +700,7 @@ public final class FrostLocks {
                     }
                 } else if (what == NOT) {
                     if (top > 0) {
-                        stack[top - 1] = bit(stack[top - 1] == 0);
+                        stack[top - 1] = stack[top - 1] == 0 ? 1 : 0;
                     }
                 } else if (top > 1) {
                     top--;
@@ -711,19 +711,19 @@ public final class FrostLocks {
         }
 
         private static int factOf(int[] facts, int fact) {
-            return isBelow(fact, facts.length) ? facts[fact] : 0;
+            return fact >= 0 && fact < facts.length ? facts[fact] : 0;
         }
 
         private static int joined(int what, int left, int right) {
             switch (what) {
                 case AND:
-                    return bit(left != 0 && right != 0);
+                    return left != 0 && right != 0 ? 1 : 0;
                 case OR:
-                    return bit(left != 0 || right != 0);
+                    return left != 0 || right != 0 ? 1 : 0;
                 case LESS:
-                    return bit(left < right);
+                    return left < right ? 1 : 0;
                 case EQUAL:
-                    return bit(left == right);
+                    return left == right ? 1 : 0;
                 case PLUS:
                     return left + right;
                 case MINUS:
@@ -731,10 +731,6 @@ public final class FrostLocks {
                 default:
                     return left * right;
             }
-        }
-
-        private static int bit(boolean so) {
-            return so ? 1 : 0;
         }
     }
 

@@ -56,6 +56,35 @@ final class Check {
         due("prison() of '" + text + "'", x.prison(), 0);
     }
 
+    /** All that can be seen of an object without a change, as one text. */
+    static String look(FrostLocks x) {
+        StringBuilder seen = new StringBuilder();
+        for (int what = 0; what < 8; what++) {
+            seen.append("count ").append(x.count(what)).append(' ');
+        }
+        for (int cell = 0; cell < x.count(0); cell++) {
+            for (int what = 0; what < 4; what++) {
+                seen.append("cell ").append(x.cell(cell, what)).append(' ');
+            }
+        }
+        for (int door = 0; door < x.count(1); door++) {
+            for (int what = 0; what < 5; what++) {
+                seen.append("door ").append(x.door(door, what)).append(' ');
+            }
+            seen.append("beside ").append(x.beside(door)).append(' ');
+        }
+        for (int man = 0; man < x.count(2); man++) {
+            for (int what = 0; what < 3; what++) {
+                seen.append("man ").append(x.man(man, what)).append(' ');
+            }
+        }
+        return seen.append("degrees ").append(x.degrees(0)).append(" salted ").append(x.salted(1)).toString();
+    }
+
+    void same(String what, String got, String want) {
+        due(what + ": " + got + " against " + want, got.equals(want), true);
+    }
+
     static int feed(FrostLocks x, String text) {
         int length = x.count(7);
         for (int i = 0; i < text.length(); i += 24) {
