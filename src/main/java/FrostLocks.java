@@ -220,7 +220,8 @@ public final class FrostLocks {
         if (!isAhead(hours) || !isBelow(i, now.law.doors)) {
             return NONE;
         }
-        orderDoors(hours);
+        findSoonest(hours);
+        orderDoors();
         return order[i];
     }
 
@@ -228,7 +229,8 @@ public final class FrostLocks {
         if (!isWithin(water, 0, FULL_LOCK) || !isAhead(hours)) {
             return NONE;
         }
-        orderDoors(hours);
+        findSoonest(hours);
+        orderDoors();
         trial.copyFrom(now);
         for (int i = 0; i < hours; i++) {
             if (i < now.law.doors) {
@@ -421,8 +423,7 @@ public final class FrostLocks {
         return missing;
     }
 
-    private void orderDoors(int hours) {
-        findSoonest(hours);
+    private void orderDoors() {
         for (int door = 0; door < now.law.doors; door++) {
             int at = door;
             while (at > 0 && soonest[order[at - 1]] > soonest[door]) {
@@ -564,7 +565,7 @@ public final class FrostLocks {
         Word(String text, boolean reserved, int fact) {
             long packed = 0;
             for (int i = 0; i < text.length(); i++) {
-                packed = Tokens.withLetter(packed, text.charAt(i));
+                packed = packed * Tokens.LETTERS + text.charAt(i) % Tokens.LETTERS;
             }
             this.name = packed;
             this.reserved = reserved;
@@ -592,6 +593,9 @@ public final class FrostLocks {
         static final int MOST_DIGITS = 4;
         static final String SIGNS = "()<=+-*;";
 
+        // A letter's number modulo this is its place in the alphabet, so no two words of eight pack alike.
+        static final int LETTERS = 32;
+
         final byte[] signs;
         final int length;
         int at;
@@ -605,10 +609,6 @@ public final class FrostLocks {
         Tokens(Tape tape) {
             signs = tape.signs;
             length = Math.min(tape.length, tape.signs.length);
-        }
-
-        static long withLetter(long name, int letter) {
-            return name * 32 + (letter - 'a' + 1);
         }
 
         boolean isSign(int wanted) {
@@ -629,6 +629,7 @@ public final class FrostLocks {
                 kind = END;
             } else if (isWithin(signs[at], 'a', 'z')) {
                 takeWord();
+                word = kind == WORD ? Word.named(name) : null;
             } else if (isWithin(signs[at], '0', '9')) {
                 takeNumber();
             } else {
@@ -640,19 +641,16 @@ public final class FrostLocks {
 
         private void takeWord() {
             name = 0;
-            while (at < length && isWithin(signs[at], 'a', 'z')) {
-                name = withLetter(name, signs[at]);
+            while (at < length && signs[at] >= 'a' && signs[at] <= 'z') {
+                name = name * LETTERS + signs[at] % LETTERS;
                 at++;
             }
             kind = at - place <= MOST_LETTERS ? WORD : NO_TOKEN;
-            if (kind == WORD) {
-                word = Word.named(name);
-            }
         }
 
         private void takeNumber() {
             number = 0;
-            while (at < length && isWithin(signs[at], '0', '9')) {
+            while (at < length && signs[at] >= '0' && signs[at] <= '9') {
                 number = number * 10 + (signs[at] - '0');
                 at++;
             }
@@ -858,7 +856,7 @@ public final class FrostLocks {
             } else {
                 right = wrong(CANT_STAND);
             }
-            return right && readSign(';');
+            return right && readLineEnd();
         }
 
         private boolean readFormula(boolean ofWeather) {
@@ -999,8 +997,8 @@ public final class FrostLocks {
             return true;
         }
 
-        private boolean readSign(int sign) {
-            if (!tokens.isSign(sign)) {
+        private boolean readLineEnd() {
+            if (!tokens.isSign(';')) {
                 return wrong(CANT_STAND);
             }
             tokens.next();
@@ -1092,8 +1090,9 @@ public final class FrostLocks {
         private boolean readPart(int depth) {
             boolean isNumber = tokens.kind == Tokens.NUMBER;
             boolean isNot = tokens.word == Word.NOT;
+            boolean isOpened = tokens.isSign('(');
             boolean isFact = tokens.word != null && isWithin(tokens.word.fact, firstFact, lastFact);
-            if (!isNumber && !isNot && !isFact && !tokens.isSign('(')) {
+            if (!isNumber && !isNot && !isFact && !isOpened) {
                 return wrong(CANT_STAND);
             }
             if (depth >= MOST_DEPTH) {
@@ -1105,16 +1104,18 @@ public final class FrostLocks {
                 addStep(Formula.PUT_FACT, tokens.word.fact);
             }
             tokens.next();
-            if (isNumber || isFact) {
-                return true;
-            }
-            if (!isNot) {
-                return readLevel(0, depth + 1) && readSign(')');
-            }
-            if (!readPart(depth + 1)) {
+            if (isNot && !readPart(depth + 1) || isOpened && !readLevel(0, depth + 1)) {
                 return false;
             }
-            addStep(Formula.NOT, 0);
+            if (isNot) {
+                addStep(Formula.NOT, 0);
+            }
+            if (isOpened && !tokens.isSign(')')) {
+                return wrong(CANT_STAND);
+            }
+            if (isOpened) {
+                tokens.next();
+            }
             return true;
         }
 
